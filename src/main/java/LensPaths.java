@@ -58,9 +58,7 @@ public final class LensPaths {
     }
 
     public void begin(int from) throws IndexOutOfBoundsException, IllegalStateException {
-        if (!versions.hasVersion(from)) {
-            throw new IndexOutOfBoundsException();
-        }
+        needVersion(from);
         if (draft.open) {
             throw new IllegalStateException();
         }
@@ -84,8 +82,8 @@ public final class LensPaths {
         if (!draft.open) {
             throw new IllegalStateException();
         }
-        if (to != NONE && !versions.hasVersion(to)) {
-            throw new IndexOutOfBoundsException();
+        if (to != NONE) {
+            needVersion(to);
         }
         if (to != NONE && (to == draft.from || !versions.schemas[to].isLike(draft.schema))) {
             throw new IllegalArgumentException();
@@ -107,9 +105,7 @@ public final class LensPaths {
 
     public int about(int version, int path, int what)
             throws IndexOutOfBoundsException, IllegalArgumentException {
-        if (!versions.hasVersion(version)) {
-            throw new IndexOutOfBoundsException();
-        }
+        needVersion(version);
         if (what < 0 || what > 3) {
             throw new IllegalArgumentException();
         }
@@ -145,9 +141,7 @@ public final class LensPaths {
     }
 
     public int record(int version) throws IndexOutOfBoundsException, UnsupportedOperationException {
-        if (!versions.hasVersion(version)) {
-            throw new IndexOutOfBoundsException();
-        }
+        needVersion(version);
         int h = freeHandle();
         if (h == NONE) {
             throw new UnsupportedOperationException();
@@ -158,9 +152,7 @@ public final class LensPaths {
     }
 
     public int copy(int h) throws IndexOutOfBoundsException, UnsupportedOperationException {
-        if (!isHandle(h)) {
-            throw new IndexOutOfBoundsException();
-        }
+        needHandle(h);
         int free = freeHandle();
         if (free == NONE) {
             throw new UnsupportedOperationException();
@@ -170,35 +162,27 @@ public final class LensPaths {
     }
 
     public void drop(int h) throws IndexOutOfBoundsException {
-        if (!isHandle(h)) {
-            throw new IndexOutOfBoundsException();
-        }
+        needHandle(h);
         rows[h].live = false;
     }
 
     public void set(int h, int path, int value)
             throws IndexOutOfBoundsException, IllegalArgumentException {
-        if (!isHandle(h)) {
-            throw new IndexOutOfBoundsException();
-        }
-        int i = findSort(h, path, NUMBER);
-        if (i == NONE || !schemaOf(h).fields[i].admits(value)) {
+        needHandle(h);
+        int at = placeOf(h, path, NUMBER);
+        if (!schemaOf(h).fields[at].admits(value)) {
             throw new IllegalArgumentException();
         }
-        rows[h].fields.writeNumber(i, value);
+        rows[h].fields.writeNumber(at, value);
     }
 
     public int put(int h, int path, int i, int value)
             throws IndexOutOfBoundsException, IllegalArgumentException {
-        if (!isHandle(h)) {
-            throw new IndexOutOfBoundsException();
-        }
-        int at = findSort(h, path, LIST);
-        if (at == NONE || !schemaOf(h).fields[at].admits(value)) {
-            throw new IllegalArgumentException();
-        }
+        needHandle(h);
+        int at = placeOf(h, path, LIST);
         Cells cells = rows[h].fields;
-        if (i < 0 || i > cells.lengthOf(at) || i == MAX_ITEMS) {
+        boolean isPlace = i >= 0 && i <= cells.lengthOf(at) && i < MAX_ITEMS;
+        if (!isPlace || !schemaOf(h).fields[at].admits(value)) {
             throw new IllegalArgumentException();
         }
         if (i == cells.lengthOf(at)) {
@@ -210,77 +194,55 @@ public final class LensPaths {
 
     public void cut(int h, int path, int n)
             throws IndexOutOfBoundsException, IllegalArgumentException {
-        if (!isHandle(h)) {
-            throw new IndexOutOfBoundsException();
-        }
-        int at = findSort(h, path, LIST);
-        if (at == NONE || n < 0 || n > rows[h].fields.lengthOf(at)) {
+        needHandle(h);
+        int at = placeOf(h, path, LIST);
+        if (n < 0 || n > rows[h].fields.lengthOf(at)) {
             throw new IllegalArgumentException();
         }
         rows[h].fields.resize(at, n);
     }
 
     public int get(int h, int path) throws IndexOutOfBoundsException, IllegalArgumentException {
-        if (!isHandle(h)) {
-            throw new IndexOutOfBoundsException();
-        }
-        int at = findSort(h, path, NUMBER);
-        if (at == NONE) {
-            throw new IllegalArgumentException();
-        }
-        return rows[h].fields.read(at, 0);
+        needHandle(h);
+        return rows[h].fields.read(placeOf(h, path, NUMBER), 0);
     }
 
     public int size(int h, int path) throws IndexOutOfBoundsException, IllegalArgumentException {
-        if (!isHandle(h)) {
-            throw new IndexOutOfBoundsException();
-        }
-        int at = findSort(h, path, LIST);
-        if (at == NONE) {
-            throw new IllegalArgumentException();
-        }
-        return rows[h].fields.lengthOf(at);
+        needHandle(h);
+        return rows[h].fields.lengthOf(placeOf(h, path, LIST));
     }
 
     public int item(int h, int path, int i)
             throws IndexOutOfBoundsException, IllegalArgumentException {
-        if (!isHandle(h)) {
-            throw new IndexOutOfBoundsException();
-        }
-        int at = findSort(h, path, LIST);
-        if (at == NONE || i < 0 || i >= rows[h].fields.lengthOf(at)) {
+        needHandle(h);
+        int at = placeOf(h, path, LIST);
+        if (i < 0 || i >= rows[h].fields.lengthOf(at)) {
             throw new IllegalArgumentException();
         }
         return rows[h].fields.read(at, i);
     }
 
     public int version(int h) throws IndexOutOfBoundsException {
-        if (!isHandle(h)) {
-            throw new IndexOutOfBoundsException();
-        }
+        needHandle(h);
         return rows[h].version;
     }
 
     public int kept(int h) throws IndexOutOfBoundsException {
-        if (!isHandle(h)) {
-            throw new IndexOutOfBoundsException();
-        }
+        needHandle(h);
         return rows[h].countKept();
     }
 
     public boolean same(int h, int other) throws IndexOutOfBoundsException {
-        if (!isHandle(h) || !isHandle(other)) {
-            throw new IndexOutOfBoundsException();
-        }
+        needHandle(h);
+        needHandle(other);
         return rows[h].version == rows[other].version
                 && rows[h].fields.agree(rows[other].fields, schemaOf(h).count);
     }
 
     public int translate(int h, int version)
             throws IndexOutOfBoundsException, IllegalStateException, ArithmeticException {
-        if (!isHandle(h) || !versions.hasVersion(version)) {
-            throw new IndexOutOfBoundsException();
-        }
+        needHandle(h);
+        needVersion(version);
         int length = versions.findWay(rows[h].version, version, NONE);
         if (length == NONE) {
             throw new IllegalStateException();
@@ -296,9 +258,8 @@ public final class LensPaths {
     }
 
     public int route(int from, int to, int k) throws IndexOutOfBoundsException {
-        if (!versions.hasVersion(from) || !versions.hasVersion(to)) {
-            throw new IndexOutOfBoundsException();
-        }
+        needVersion(from);
+        needVersion(to);
         int length = versions.findWay(from, to, NONE);
         return length == NONE || k < 0 || k > length ? NONE : versions.stops[k];
     }
@@ -332,6 +293,18 @@ public final class LensPaths {
             }
         }
         return true;
+    }
+
+    private void needVersion(int version) throws IndexOutOfBoundsException {
+        if (!versions.hasVersion(version)) {
+            throw new IndexOutOfBoundsException();
+        }
+    }
+
+    private void needHandle(int h) throws IndexOutOfBoundsException {
+        if (!isHandle(h)) {
+            throw new IndexOutOfBoundsException();
+        }
     }
 
     private boolean isHandle(int h) {
@@ -368,10 +341,13 @@ public final class LensPaths {
         return versions.schemas[rows[h].version];
     }
 
-    private int findSort(int h, int path, int sort) {
+    private int placeOf(int h, int path, int sort) throws IllegalArgumentException {
         Schema schema = schemaOf(h);
-        int i = schema.find(Key.ofPath(path));
-        return i == NONE || schema.fields[i].sort != sort ? NONE : i;
+        int at = schema.find(Key.ofPath(path));
+        if (at == NONE || schema.fields[at].sort != sort) {
+            throw new IllegalArgumentException();
+        }
+        return at;
     }
 
     private static boolean isShape(int sort, int low, int high) {

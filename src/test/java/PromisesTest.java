@@ -320,6 +320,10 @@ public final class PromisesTest {
         due("ADD to 24", x.primitive(ADD, p(31), 0, 0, 1), 5);
         x.end(NONE);
         due("24", x.about(1, 0, 3), 24);
+        step(x, 0, NONE, RENAME, p(23), 99, 0, 0);
+        step(x, 2, 0, RENAME, p(99), 23, 0, 0);
+        due("a record of 24", x.get(x.record(2), p(99)), 0);
+        due("one step of 24 against another", x.clash(2), 0);
     }
 
     private static void end() {
@@ -657,6 +661,10 @@ public final class PromisesTest {
         x.set(0, p(3, 1), 1);
         due("another number", x.same(0, 1), false);
         x.set(1, p(3, 1), 1);
+        x.set(1, p(1), 1);
+        due("another first number", x.same(0, 1), false);
+        x.set(1, p(1), 0);
+        x.set(1, p(3, 1), 1);
         due("the same number", x.same(0, 1), true);
         fill(x, 0, p(2), 4, 5);
         fill(x, 1, p(2), 4, 5, 6);
@@ -761,6 +769,20 @@ public final class PromisesTest {
         x.translate(0, 1);
         x.translate(0, 0);
         due("gone with the way back, as it is the default now", x.kept(0), 0);
+    }
+
+    private static void defaults() {
+        promise = 21;
+        LensPaths x = withNumber(-5, 5);
+        step(x, 0, NONE, REMOVE, p(0), 0, 0, 0, ADD, p(0), 0, -7, 7);
+        x.record(0);
+        dueMove(x, 0, 1, 0, 0);
+        x.set(0, p(0), -7);
+        dueMove(x, 0, 0, 0, 1);
+        x.set(0, p(0), -5);
+        dueMove(x, 0, 1, -7, 1);
+        x.set(0, p(0), 0);
+        dueMove(x, 0, 0, -5, 0);
     }
 
     private static void wrap() {
@@ -1031,15 +1053,20 @@ public final class PromisesTest {
         return told;
     }
 
-    /** What clash tells of a step without primitives to a version that has just the schema there, over: */
-    private static int roundBy(int[] steps, int[] more) {
+    /** What clash tells of a step beside a way over another step forth, and a third one back. */
+    private static int round(LensPaths x, int[] step, int[] forth, int[] back) {
+        step(x, 0, NONE, step);
+        step(x, 0, NONE, forth);
+        step(x, 1, 2, back);
+        return x.clash(0);
+    }
+
+    /** The same of a step without primitives, of version 0 with a number 0 and a list 1. */
+    private static int roundBy(int[] forth, int[] back) {
         LensPaths x = new LensPaths();
         x.field(p(0), 0, -20, 30);
         x.field(p(1), 1, 2, 30);
-        step(x, 0, NONE);
-        step(x, 0, NONE, steps);
-        step(x, 1, 2, more);
-        return x.clash(0);
+        return round(x, of(), forth, back);
     }
 
     private static int[] of(int... n) {
@@ -1080,6 +1107,19 @@ public final class PromisesTest {
                 of(ADD, p(2), 0, -2, -2, ADD, p(3), 0, 0, 0)), 0);
         due("the rest of a number", beside(of(ADD, p(2), 0, -7, -7, SPLIT, p(2), 5, 3, 0),
                 of(ADD, p(2), 0, -2, -2, ADD, p(3), 0, 0, 4, MAP, p(3), 0, 3, 0)), 0);
+        LensPaths one = withNumber(0, 1);
+        step(one, 0, NONE, SCALE, p(0), 1, 5, 0);
+        step(one, 0, 1, SCALE, p(0), 2, 5, 0);
+        due("SCALE by another a", one.clash(1), 1);
+        LensPaths other = withNumber(0, 1);
+        step(other, 0, NONE, SCALE, p(0), 2, 5, 0);
+        step(other, 0, 1, SCALE, p(0), 2, 4, 0);
+        due("SCALE by another b", other.clash(1), 1);
+        LensPaths twins = withNumber(0, 9);
+        twins.field(p(1), 0, 0, 9);
+        step(twins, 0, NONE);
+        step(twins, 0, 1, RENAME, p(0), 2, 0, 0, RENAME, p(1), 0, 0, 0, RENAME, p(2), 1, 0, 0);
+        due("two numbers change names", twins.clash(1), 1);
         due("a record type", beside(of(ADD, p(2), 2, 0, 0), of(ADD, p(2), 2, 1, 1)), 0);
         due("two numbers change places", beside(of(SPLIT, p(0), 2, 2, 0, SPLIT, p(0), 2, 3, 0),
                 of(SPLIT, p(0), 2, 3, 0, SPLIT, p(0), 2, 2, 0)), 1);
@@ -1101,6 +1141,26 @@ public final class PromisesTest {
         due("SORT forth", roundBy(of(SORT, p(1), 0, 0, 0), of()), 1);
         due("REMOVE back", roundBy(of(REMOVE, p(1), 0, 0, 0), of(REMOVE, p(1), 0, 0, 0)), 1);
         due("ADD back", roundBy(of(ADD, p(2), 0, 0, 1, MAP, p(2), 0, 1, 0), of(ADD, p(2), 0, 0, 1)), 0);
+        due("SPLIT by the same twice", roundBy(of(SPLIT, p(0), 2, 5, 0, SPLIT, p(0), 2, 6, 0),
+                of(SPLIT, p(0), 2, 5, 0, SPLIT, p(0), 2, 6, 0)), 0);
+        int[] anew = of(REMOVE, p(0), 0, 0, 0, ADD, p(0), 0, -20, 30);
+        due("REMOVE back: the default", round(withNumber(-20, 30), anew,
+                of(REMOVE, p(0), 0, 0, 0), of(REMOVE, p(0), 0, 0, 0)), 0);
+        due("SPLIT back of a number and R", round(withNumber(-20, 30), anew,
+                of(SPLIT, p(0), 7, 5, 0, REMOVE, p(0), 0, 0, 0, ADD, p(0), 0, -3, 4),
+                of(SPLIT, p(0), 7, 5, 0)), 1);
+        due("SPLIT back of Q and a number", round(withNumber(-20, 30), anew,
+                of(SPLIT, p(0), 7, 5, 0, REMOVE, p(5), 0, 0, 0, ADD, p(5), 0, 0, 6),
+                of(SPLIT, p(0), 7, 5, 0)), 1);
+        LensPaths scaled = withNumber(-20, 30);
+        scaled.field(p(5), 0, 0, 12);
+        due("SPLIT back of what SCALE made", round(scaled, of(REMOVE, p(5), 0, 0, 0),
+                of(SCALE, p(0), 7, 49, 0, SCALE, p(5), 7, 14, 0), of(SPLIT, p(0), 7, 5, 0)), 1);
+        LensPaths two = withNumber(-20, 30);
+        two.field(p(2), 0, -20, 30);
+        int[] both = of(SPLIT, p(0), 7, 5, 0, SPLIT, p(2), 7, 6, 0);
+        due("SPLIT back of Q and R of two numbers", round(two, of(), of(SPLIT, p(0), 7, 5, 0, SPLIT, p(2), 7, 6, 0,
+                RENAME, p(5), 9, 0, 0, RENAME, p(6), 5, 0, 0, RENAME, p(9), 6, 0, 0), both), 1);
         numbersBack();
         splitForthOfJ();
     }
@@ -1148,6 +1208,11 @@ public final class PromisesTest {
         step(y, 1, NONE);
         step(y, 0, 2, SPLIT, p(0), 5, 1, 0);
         due("SPLIT back and forth: J is taken apart", y.clash(1), 0);
+        LensPaths w = withNumber(0, 19);
+        step(w, 0, NONE, SPLIT, p(0), 5, 1, 0);
+        step(w, 1, NONE);
+        step(w, 0, 2, ADD, p(7), 2, 0, 0, REMOVE, p(7), 0, 0, 0, SPLIT, p(0), 5, 1, 0);
+        due("J is taken apart, whatever is between", w.clash(1), 0);
         LensPaths z = withNumber(0, 19);
         step(z, 0, NONE, SPLIT, p(0), 5, 1, 0);
         step(z, 1, NONE);
@@ -1173,6 +1238,41 @@ public final class PromisesTest {
         due("from a greater version, back over the MAP", y.clash(2), 0);
         due("round the other way, back over the MAP too", y.clash(0), 0);
         due("the MAP itself against nothing", y.clash(1), 1);
+    }
+
+    /** Of one object more terms than any one call makes. */
+    private static void manyTerms() {
+        promise = 23;
+        LensPaths x = withNumber(0, 99);
+        for (int s = 0; s < 8; s++) {
+            x.begin(s == 7 ? 0 : s);
+            for (int i = 0; i < 4; i++) {
+                x.primitive(SCALE, p(0), 2, 1, 0);
+                x.primitive(SCALE, p(0), 1, 2, 0);
+            }
+            x.end(s == 7 ? 7 : NONE);
+        }
+        for (int s = 0; s < 8; s++) {
+            due("step " + s + " against all others", x.clash(s), 1);
+        }
+    }
+
+    private static void oneBehindAnother() {
+        promise = 23;
+        LensPaths x = withNumber(0, 9);
+        step(x, 0, NONE);
+        step(x, 0, 1, MAP, p(0), 1, 2, 0);
+        step(x, 1, NONE, REMOVE, p(0), 0, 0, 0, ADD, p(0), 2, 0, 0);
+        step(x, 2, NONE);
+        step(x, 2, 3);
+        due("other terms", x.clash(1), 1);
+        due("a record has none, whatever was told before", x.clash(3), 0);
+        LensPaths y = withNumber(0, 9);
+        y.field(p(1), 0, 0, 9);
+        y.field(p(2), 0, 0, 9);
+        step(y, 0, NONE, REMOVE, p(0), 0, 0, 0, RENAME, p(2), 0, 0, 0);
+        step(y, 0, 1, REMOVE, p(2), 0, 0, 0);
+        due("another one of three stays", y.clash(0), 1);
     }
 
     private static void longestWay() {
@@ -1219,6 +1319,7 @@ public final class PromisesTest {
         translateWays();
         places();
         addAndRemove();
+        defaults();
         wrap();
         split();
         asBefore();
@@ -1233,6 +1334,8 @@ public final class PromisesTest {
         clashBack();
         withoutTheStep();
         longestWay();
+        manyTerms();
+        oneBehindAnother();
         System.out.println(wrong == 0 ? "all promises hold" : wrong + " answers are not as due");
         if (wrong != 0) {
             System.exit(1);
