@@ -822,6 +822,10 @@ public final class ModelTest {
 
     // ---- the runs ----
 
+    /** What an object is used for at most; what it answers later is free. */
+    private static final int MAX_CALLS = 512;
+    /** Some calls are left for asking all. */
+    private static final int ENOUGH = 410;
     private static final int[] BOUNDS = {-1000000, -50, -7, -1, 0, 0, 0, 3, 9, 10, 20, 100, 2000000};
     private static final int[] EDGES = {Integer.MIN_VALUE, Integer.MAX_VALUE, -1, 16, 100, 127};
     private static final String[] CALLS = {"field", "begin", "primitive", "end", "leave", "about", "count",
@@ -894,8 +898,11 @@ public final class ModelTest {
         }
     }
 
-    /** Makes a call of both: whether it was answered without an exception. */
+    /** Makes a call of both, while calls are left: whether it was answered without an exception. */
     private boolean ask(int call, int... n) {
+        if (calls == MAX_CALLS) {
+            return false;
+        }
         String got;
         String due;
         calls++;
@@ -1167,27 +1174,28 @@ public final class ModelTest {
     }
 
     private void askAll() {
-        for (int what = -1; what < 5; what++) {
-            ask(6, what);
-        }
-        for (int v = 0; v < model.versions.size(); v++) {
-            List<Integer> paths = new ArrayList<>(List.of(0, 1, 101, -1, 128));
-            collect(model.versions.get(v), 0, 0, paths);
-            for (int path : paths) {
-                for (int what = 0; what < 4; what++) {
-                    ask(5, v, path, what);
-                }
-            }
-            for (int to = 0; to < model.versions.size(); to++) {
-                for (int k = -1; k < 6; k++) {
-                    ask(20, v, to, k);
-                }
-            }
-        }
         for (int s = -1; s <= model.steps.size(); s++) {
             ask(21, s);
         }
+        for (int what = -1; what < 5; what++) {
+            ask(6, what);
+        }
         ask(5, someVersion(), somePath(model.versions.get(0), -1), pick(-1, 4));
+        for (int i = 0; i < 30; i++) {
+            ask(20, someVersion(), someVersion(), random.nextInt(8) - 1);
+        }
+        for (int i = 0; i < 12; i++) {
+            askAboutSome(random.nextInt(model.versions.size()));
+        }
+    }
+
+    private void askAboutSome(int v) {
+        List<Integer> paths = new ArrayList<>(List.of(0, 1, 101, -1, 128));
+        collect(model.versions.get(v), 0, 0, paths);
+        int path = paths.get(random.nextInt(paths.size()));
+        for (int what = 0; what < 4; what++) {
+            ask(5, v, path, what);
+        }
     }
 
     private void run() {
@@ -1196,13 +1204,13 @@ public final class ModelTest {
         }
         tellFields();
         int rounds = 1 + random.nextInt(25);
-        for (int r = 0; r < rounds && calls < 4000; r++) {
+        for (int r = 0; r < rounds && calls < ENOUGH; r++) {
             int n = random.nextInt(3);
             for (int i = 0; i < n; i++) {
                 someStep();
             }
             n = random.nextInt(12);
-            for (int i = 0; i < n; i++) {
+            for (int i = 0; i < n && calls < ENOUGH; i++) {
                 someRecordCall();
             }
             if (chance(3)) {
@@ -1213,7 +1221,7 @@ public final class ModelTest {
     }
 
     public static void main(String[] args) {
-        int runs = args.length > 0 ? Integer.parseInt(args[0]) : 1500;
+        int runs = args.length > 0 ? Integer.parseInt(args[0]) : 5000;
         for (int seed = 1; seed <= runs && wrong == 0; seed++) {
             new ModelTest(seed).run();
         }
