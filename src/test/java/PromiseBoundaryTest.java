@@ -856,9 +856,8 @@ public final class PromiseBoundaryTest extends Boundaries {
             r.does("primitive", SPLIT, p(i), 2, 50 + i, 0);
         }
         r.due(7, "end", 7);
-        for (int i = 0; i < 3; i++) {
-            r.due(1, "clash", 7);
-            r.due(1, "clash", 0);
+        for (int i = 0; i < 16; i++) {
+            r.due(1, "clash", i % 8);
         }
     }
 

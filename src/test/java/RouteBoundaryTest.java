@@ -1,6 +1,18 @@
 /** The boundaries of the route and of terms, under 'Terms'. */
 public final class RouteBoundaryTest extends Boundaries {
 
+    private static void toItself() {
+        sentence("Terms: 'THE ROUTE .. (each forth or back; none to itself)' - what is kept stays");
+        Run r = withNumber(0, 9);
+        r.step(0, NONE, SCALE, p(0), 1, 2, 0);
+        r.does("record", 0);
+        r.does("set", 0, p(0), 5);
+        r.dueMove(0, 1, 2, 1);
+        r.due(0, "translate", 0, 1);
+        r.due(1, "kept", 0);
+        r.dueMove(0, 0, 5, 0);
+    }
+
     private static void fewestSteps() {
         sentence("Terms: 'THE ROUTE .. is the way over the fewest steps (.. none to itself)'");
         Run r = withVersions(2);
@@ -12,13 +24,6 @@ public final class RouteBoundaryTest extends Boundaries {
         r.step(2, NONE);
         r.due(3, "translate", 0, 3);
         r.due(0, "translate", 0, 3);
-        Run itself = withNumber(0, 9);
-        itself.step(0, NONE, SCALE, p(0), 1, 2, 0);
-        itself.does("record", 0);
-        itself.does("set", 0, p(0), 5);
-        itself.dueMove(0, 1, 2, 1);
-        itself.dueMove(0, 1, 2, 1);
-        itself.dueMove(0, 0, 5, 0);
         r.step(3, 0);
         r.due(3, "route", 0, 3, 1);
         r.due(1, "translate", 0, 0);
@@ -94,8 +99,8 @@ public final class RouteBoundaryTest extends Boundaries {
         return r;
     }
 
-    private static void splitBackOfTerms(int rest, int joined, int clash) {
-        int[] numbers = of(ADD, p(0), NUMBER, -2147484, 2147483, MAP, p(0), 0, 2147483, 0,
+    private static void splitBackOfTerms(int quotient, int rest, int joined, int clash) {
+        int[] numbers = of(ADD, p(0), NUMBER, -2147484, 2147483, MAP, p(0), 0, quotient, 0,
                 ADD, p(1), NUMBER, 0, 999, MAP, p(1), 0, rest, 0);
         Run r = backOver(numbers, MIN, MAX, SPLIT, p(0), 1000, 1, 0);
         r.step(0, 3, ADD, p(0), NUMBER, MIN, MAX, MAP, p(0), 0, joined, 0);
@@ -104,10 +109,14 @@ public final class RouteBoundaryTest extends Boundaries {
 
     private static void wrapRound() {
         sentence("Terms: terms, SPLIT back 'of two numbers what they make (.. as an int)': the lowest 32 bits");
-        splitBackOfTerms(647, MAX, 0);
-        splitBackOfTerms(648, MIN, 0);
-        splitBackOfTerms(648, MAX, 1);
-        splitBackOfTerms(999, -2147483297, 0);
+        splitBackOfTerms(2147483, 647, MAX, 0);
+        splitBackOfTerms(2147483, 648, MIN, 0);
+        splitBackOfTerms(2147483, 648, MAX, 1);
+        splitBackOfTerms(2147483, 999, -2147483297, 0);
+        splitBackOfTerms(-2147484, 352, MIN, 0);
+        splitBackOfTerms(-2147484, 351, MAX, 0);
+        splitBackOfTerms(-2147484, 351, MIN, 1);
+        splitBackOfTerms(-2147484, 1, 2147483297, 0);
 
         sentence("Terms: terms, SPLIT back 'of two numbers what they make (whatever bounds)'");
         whateverBounds(5, 5, 4, 4);
@@ -115,10 +124,13 @@ public final class RouteBoundaryTest extends Boundaries {
         whateverBounds(4, 5, 4, 4);
 
         sentence("Terms: terms, SCALE forth 'of a number what comes of it (as an int)': the lowest 32 bits");
-        scaleForthOfTerms(482, Math.floorMod(2147482000, 7));
-        scaleForthOfTerms(483, Math.floorMod(2147483000, 7));
-        scaleForthOfTerms(485, Math.floorMod(-2147482296, 7));
-        scaleForthOfTerms(999, Math.floorMod(-2146968296, 7));
+        scaleForthOfTerms(2147, 482, Math.floorMod(2147482000, 7));
+        scaleForthOfTerms(2147, 483, Math.floorMod(2147483000, 7));
+        scaleForthOfTerms(2147, 485, Math.floorMod(2147485000L - (1L << 32), 7));
+        scaleForthOfTerms(2147, 999, Math.floorMod(2147999000L - (1L << 32), 7));
+        scaleForthOfTerms(-2148, 517, Math.floorMod(-2147483000, 7));
+        scaleForthOfTerms(-2148, 515, Math.floorMod(-2147485000L + (1L << 32), 7));
+        scaleForthOfTerms(-2148, 1, Math.floorMod(-2147999000L + (1L << 32), 7));
     }
 
     /** The quotient's and the rest's default back over SPLIT, then its rest by 1000. */
@@ -131,10 +143,11 @@ public final class RouteBoundaryTest extends Boundaries {
         r.due(0, "clash", 3);
     }
 
-    private static void scaleForthOfTerms(int rest, int due) {
-        int[] numbers = of(ADD, p(0), NUMBER, 0, 2147, MAP, p(0), 0, 2147, 0,
+    /** SPLIT back makes a number beyond its bounds, 1000 times which may be no int; then its rest by 7. */
+    private static void scaleForthOfTerms(int quotient, int rest, int due) {
+        int[] numbers = of(ADD, p(0), NUMBER, -2148, 2147, MAP, p(0), 0, quotient, 0,
                 ADD, p(1), NUMBER, 0, 999, MAP, p(1), 0, rest, 0);
-        Run r = backOver(numbers, 0, 2147483, SPLIT, p(0), 1000, 1, 0);
+        Run r = backOver(numbers, -2147483, 2147483, SPLIT, p(0), 1000, 1, 0);
         r.step(3, NONE, SCALE, p(0), 1000, 1, 0, SPLIT, p(0), 7, 1, 0, REMOVE, p(0), 0, 0, 0);
         r.step(0, 4, ADD, p(1), NUMBER, 0, 6, MAP, p(1), 0, due, 0);
         r.due(0, "clash", 5);
@@ -291,6 +304,10 @@ public final class RouteBoundaryTest extends Boundaries {
         none.step(0, NONE);
         none.step(0, 1, RENAME, p(0), 50, 0, 0, RENAME, p(1), 0, 0, 0, RENAME, p(50), 1, 0, 0);
         none.due(0, "clash", 1);
+        none.step(0, 1, REMOVE, p(0), 0, 0, 0, ADD, p(0), GROUP, 0, 0);
+        none.due(0, "clash", 2);
+        none.step(1, 0, REMOVE, p(1), 0, 0, 0, ADD, p(1), GROUP, 0, 0);
+        none.due(0, "clash", 3);
     }
 
     private static void listTerms() {
@@ -314,6 +331,7 @@ public final class RouteBoundaryTest extends Boundaries {
     }
 
     public static void main(String[] args) {
+        toItself();
         fewestSteps();
         theSameWayBack();
         firstOfSeveralSteps();
