@@ -399,6 +399,9 @@ public final class PromiseBoundaryTest extends Boundaries {
         r.due(0, "record", 0);
 
         sentence("Promise 9: 'UnsupportedOperationException: none is free'");
+        for (int h = 0; h < 16; h++) {
+            r.does("set", h, p(0), 1 + h / 2);
+        }
         r.refuses(UNSUPPORTED, "record", 0);
         r.does("drop", 3);
         r.due(3, "record", 0);
@@ -443,6 +446,8 @@ public final class PromiseBoundaryTest extends Boundaries {
         r.due(15, "copy", 0);
 
         sentence("Promise 10: 'UnsupportedOperationException: none is free'");
+        r.dueMove(3, 0, 5, 0);
+        r.refuses(UNSUPPORTED, "copy", 3);
         r.refuses(UNSUPPORTED, "copy", 0);
         r.refuses(UNSUPPORTED, "copy", 15);
 

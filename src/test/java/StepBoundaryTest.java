@@ -356,7 +356,7 @@ public final class StepBoundaryTest extends Boundaries {
         }
         for (int[] b : new int[][] {{1073741824, 2, 1}, {1431655766, 3, 2}, {MAX, 1000, 999}, {2147484, 1000, 1},
             {MAX, 1000, 1}}) {
-            Run r = withNumber(0, b[0]);
+            Run r = withNumber(-9, b[0]);
             r.does("begin", 0);
             r.refuses(ARGUMENT, "primitive", SCALE, p(0), b[1], b[2], 0);
         }
@@ -370,7 +370,7 @@ public final class StepBoundaryTest extends Boundaries {
         }
         for (int[] b : new int[][] {{-1073741825, 2, 1}, {-1431655766, 3, 2}, {MIN, 1000, 999}, {-2147484, 1000, 1},
             {MIN, 1000, 1}}) {
-            Run r = withNumber(b[0], 0);
+            Run r = withNumber(b[0], 9);
             r.does("begin", 0);
             r.refuses(ARGUMENT, "primitive", SCALE, p(0), b[1], b[2], 0);
         }
@@ -443,6 +443,9 @@ public final class StepBoundaryTest extends Boundaries {
         sentence("Terms: 24 fields and 8 primitives at once, with records and terms");
         Run r = withNumbers(24);
         r.does("begin", 0);
+        for (int i = 0; i < 20; i++) {
+            r.refuses(ARGUMENT, "primitive", ADD, p(50 + i), NUMBER, 0, 9);
+        }
         for (int i = 0; i < 4; i++) {
             r.due(2 * i + 1, "primitive", REMOVE, p(i), 0, 0, 0);
             r.due(2 * i + 2, "primitive", ADD, p(50 + i), NUMBER, i, 9);
