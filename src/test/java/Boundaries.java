@@ -41,13 +41,22 @@ public abstract class Boundaries {
     // ---- how a sentence is tried ----
 
     static void sentence(String words) {
-        sentence = words;
+        under(words);
         sentences++;
     }
 
-    static void fault(String what, Run run) {
+    /** What a fault is told under from now on. */
+    static void under(String words) {
+        sentence = words;
+    }
+
+    static void fault(String what) {
         wrong++;
         System.out.println(sentence + "\n    " + what);
+    }
+
+    static void fault(String what, Run run) {
+        fault(what);
         if (wrong <= 5) {
             System.out.println("    behind " + run.calls);
         }
@@ -415,7 +424,7 @@ public abstract class Boundaries {
 
     /** Tells what was found, and ends with exit code 1 if an answer was not as due. */
     static void finish() {
-        System.out.println(wrong == 0 ? sentences + " sentences hold at their boundaries"
+        System.out.println(wrong == 0 ? sentences + " sentences hold"
                 : wrong + " answers are not as due");
         if (wrong != 0) {
             System.exit(1);
