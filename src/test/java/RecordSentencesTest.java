@@ -90,6 +90,8 @@ public final class RecordSentencesTest extends Sentences {
         back.does("set", 0, p(1), 4);
         back.dueMove(0, 0, 7, 0);
 
+        eachOnItsOwn();
+
         says("(Names and places go as with the schema.)");
         Run n = withEachSort();
         n.step(0, NONE, RENAME, p(0), 9, 0, 0, LIFT, p(2, 3), 0, 0, 0, RENAME, p(3), 0, 0, 0, RENAME, p(1), 3, 0, 0);
@@ -109,6 +111,42 @@ public final class RecordSentencesTest extends Sentences {
         n.due(1, "get", 0, p(2, 3, 4));
         n.dueList(0, p(1), 8);
         n.due(0, "kept", 0);
+    }
+
+    /** Behind the number 0, which stays, seven kinds forth and back, each on a field of its own. */
+    private static void eachOnItsOwn() {
+        Run r = withNumbers(7);
+        r.does("field", p(7), LIST, 0, 9);
+        r.step(0, NONE, WRAP, p(1), 0, 0, 0, SCALE, p(2), 1, 2, 0, MAP, p(3), 3, 4, 0, REMOVE, p(4), 0, 0, 0,
+                SPLIT, p(5), 4, 4, 0, SORT, p(7), 0, 0, 0, ADD, p(8), NUMBER, 0, 9);
+        r.does("record", 0);
+        for (int name = 0; name < 7; name++) {
+            r.does("set", 0, p(name), name);
+        }
+        r.does("set", 0, p(2), 9);
+        r.list(0, p(7), 7, 0);
+        r.due(1, "translate", 0, 1);
+        r.dueList(0, p(1), 1);
+        r.dueList(0, p(7), 0, 7);
+        int[][] forth = {{0, 0}, {2, 4}, {3, 4}, {4, 1}, {5, 1}, {6, 6}, {8, 0}};
+        for (int[] n : forth) {
+            r.due(n[1], "get", 0, p(n[0]));
+        }
+        r.due(4, "kept", 0);
+        r.list(0, p(1), 8, 2);
+        r.does("set", 0, p(8), 5);
+        r.due(1, "translate", 0, 0);
+        int[][] back = {{0, 0}, {1, 8}, {2, 9}, {3, 3}, {4, 4}, {5, 5}, {6, 6}};
+        for (int[] n : back) {
+            r.due(n[1], "get", 0, p(n[0]));
+        }
+        r.dueList(0, p(7), 7, 0);
+        r.due(2, "kept", 0);
+        r.does("set", 0, p(0), 6);
+        r.due(1, "translate", 0, 1);
+        r.dueList(0, p(1), 8, 2);
+        r.due(5, "get", 0, p(8));
+        r.due(6, "get", 0, p(0));
     }
 
     private static void noMore() {
@@ -178,6 +216,7 @@ public final class RecordSentencesTest extends Sentences {
         r.does("cut", 0, p(1), 0);
         r.does("set", 0, p(2), -2);
         r.dueMove(0, 0, 3, 0);
+        eachItsOwnThing();
         // A record type has nothing that could be kept.
         Run group = new Run();
         group.does("field", p(0), GROUP, 0, 0);
@@ -187,6 +226,24 @@ public final class RecordSentencesTest extends Sentences {
         group.due(0, "kept", 0);
         group.does("translate", 0, 0);
         group.due(0, "kept", 0);
+    }
+
+    /** What is kept for two records, for two primitives each. */
+    private static void eachItsOwnThing() {
+        Run r = withNumbers(2);
+        r.step(0, NONE, REMOVE, p(0), 0, 0, 0, REMOVE, p(1), 0, 0, 0);
+        for (int h : of(0, 1)) {
+            r.does("record", 0);
+            r.does("set", h, p(0), 3 + h);
+            r.does("set", h, p(1), 6 + h);
+        }
+        r.does("translate", 0, 1);
+        r.does("translate", 1, 1);
+        for (int h : of(0, 1)) {
+            r.due(2, "kept", h);
+            r.dueMove(h, 0, 3 + h, 0);
+            r.due(6 + h, "get", h, p(1));
+        }
     }
 
     /** Version 0 has a number from 2 to 9, version 1 the list that it is wrapped into. */
@@ -257,7 +314,20 @@ public final class RecordSentencesTest extends Sentences {
             r.does("drop", 0);
         }
 
+        Run wide = withNumber(MIN, MAX);
+        wide.step(0, NONE, SPLIT, p(0), 1000, 1, 0);
+        wide.does("record", 1);
+        wide.does("set", 0, p(0), 2147483);
+        wide.does("set", 0, p(1), 647);
+        wide.dueMove(0, 0, MAX, 0);
+        wide.does("translate", 0, 1);
+
         says("the record CANNOT be taken if that is not in the bounds of the number before.");
+        wide.does("set", 0, p(1), 648);
+        wide.refuses(ARITHMETIC, "translate", 0, 0);
+        wide.does("set", 0, p(0), -2147484);
+        wide.does("set", 0, p(1), 351);
+        wide.refuses(ARITHMETIC, "translate", 0, 0);
         for (int[] n : new int[][] {{4, 8}, {4, 9}, {-3, 4}, {-3, 0}}) {
             r.due(0, "record", 1);
             r.does("set", 0, p(0), n[0]);
@@ -284,6 +354,8 @@ public final class RecordSentencesTest extends Sentences {
         scales(-9, 9, 5, 3, 0, of(4, 6, 1));
         scales(-9, 9, 5, 3, 0, of(3, 5, 0));
         scales(-9, 9, 5, 3, 0, of(-4, -7, 1));
+        scales(0, MAX, 999, 1000, 0, of(MAX, 2145336163, 1));
+        scales(MIN, 0, 999, 1000, 0, of(MIN, -2145336165, 0));
 
         says("back the quotient of b times it and a (no int need be enough for that), rounded down,");
         scales(-9, 9, 5, 3, 1, of(15, 9, 0));

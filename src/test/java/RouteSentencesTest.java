@@ -145,6 +145,7 @@ public final class RouteSentencesTest extends Sentences {
         beside(1, both(), of(SCALE, p(0), 2, 1, 0), of(SCALE, p(0), 4, 2, 0));
         beside(1, both(), of(), of(SCALE, p(0), 2, 1, 0, SCALE, p(0), 1, 2, 0));
         beside(1, both(), of(MAP, p(0), 1, 2, 0), of(MAP, p(0), 1, 2, 0, MAP, p(0), 1, 2, 0));
+        noneIsAnother();
 
         says("(as an int: the lowest 32 bits).");
         int[] parts = of(ADD, p(0), NUMBER, -2147484, 2147483, MAP, p(0), 0, 2147483, 0,
@@ -174,6 +175,16 @@ public final class RouteSentencesTest extends Sentences {
         int[] none = of(ADD, p(2), LIST, 3, 9);
         beside(0, both(), none, behind(none, REMOVE, p(2), 0, 0, 0, ADD, p(2), LIST, 3, 9));
         beside(1, both(), none, behind(three, WRAP, p(2), 0, 0, 0));
+        round(0, withNumbers(1), of(ADD, p(1), NUMBER, 3, 9), of(), of(REMOVE, p(1), 0, 0, 0));
+    }
+
+    /** A number that is 0 alone stays so, whatever is done to it; but of its terms SPLIT takes J apart alone. */
+    private static void noneIsAnother() {
+        beside(1, withNumber(0, 0), of(), of(SPLIT, p(0), 2, 1, 0, REMOVE, p(1), 0, 0, 0,
+                SPLIT, p(0), 2, 1, 0, REMOVE, p(1), 0, 0, 0));
+        beside(1, withNumber(0, 0), of(), of(SPLIT, p(0), 2, 1, 0, REMOVE, p(0), 0, 0, 0,
+                SPLIT, p(1), 2, 2, 0, REMOVE, p(2), 0, 0, 0, RENAME, p(1), 0, 0, 0));
+        beside(1, withNumber(0, 0), of(), of(SCALE, p(0), 2, 3, 0, SPLIT, p(0), 2, 1, 0, REMOVE, p(1), 0, 0, 0));
     }
 
     private static void termsOfWrap() {
@@ -188,11 +199,13 @@ public final class RouteSentencesTest extends Sentences {
         round(0, withNumber(0, 9), of(), wrap, wrap);
         round(0, withNumber(0, 9), of(MAP, p(0), 1, 2, 0), of(MAP, p(0), 1, 2, 0, WRAP, p(0), 0, 0, 0), wrap);
         round(1, withNumber(0, 9), of(), of(MAP, p(0), 1, 2, 0, WRAP, p(0), 0, 0, 0), wrap);
+        round(0, withNumbers(2), of(), of(WRAP, p(1), 0, 0, 0), of(WRAP, p(1), 0, 0, 0));
 
         says("of E: the default;");
         round(0, empty(), of(ADD, p(0), NUMBER, 0, 9), list, wrap);
         round(1, empty(), of(ADD, p(0), NUMBER, 0, 9, MAP, p(0), 0, 1, 0), list, wrap);
         round(0, empty(), of(ADD, p(0), NUMBER, -9, -4), of(ADD, p(0), LIST, -9, -4), wrap);
+        round(0, withNumbers(1), of(ADD, p(1), NUMBER, 3, 9), of(ADD, p(1), LIST, 3, 9), of(WRAP, p(1), 0, 0, 0));
 
         says("else F t.");
         round(1, withList(0, 9), of(REMOVE, p(0), 0, 0, 0, ADD, p(0), NUMBER, 0, 9), of(), wrap);
@@ -213,6 +226,11 @@ public final class RouteSentencesTest extends Sentences {
         j.step(1, NONE);
         j.step(0, 2, SPLIT, p(0), 5, 1, 0);
         j.due(0, "clash", 1);
+        Run later = withNumber(0, 19);
+        later.step(0, NONE, SPLIT, p(0), 5, 1, 0);
+        later.step(1, NONE);
+        later.step(0, 2, ADD, p(7), GROUP, 0, 0, REMOVE, p(7), 0, 0, 0, SPLIT, p(0), 5, 1, 0);
+        later.due(0, "clash", 1);
 
         says("else Q t a and R t a.");
         splitForthOfJ(2, 1);
@@ -244,6 +262,22 @@ public final class RouteSentencesTest extends Sentences {
         round(0, withNumbers(2), of(), twice, twice);
         round(1, withNumbers(2), of(), behind(twice, exchange(5, 6)), twice);
         round(1, withNumber(0, 9), of(), of(SPLIT, p(0), 2, 1, 0, MAP, p(1), 0, 1, 0), of(SPLIT, p(0), 2, 1, 0));
+        round(1, withNumber(0, 3), of(), behind(of(SPLIT, p(0), 2, 1, 0), exchange(0, 1)), of(SPLIT, p(0), 2, 1, 0));
+        oneNumberAlone(0);
+        oneNumberAlone(1);
+    }
+
+    /** The quotient, or the rest, is a number, the other one is not: SPLIT back and forth leads to them again. */
+    private static void oneNumberAlone(int name) {
+        Run r = withNumber(0, 1);
+        r.does("field", p(1), NUMBER, 0, 2);
+        r.step(0, NONE, REMOVE, p(name), 0, 0, 0, ADD, p(name), NUMBER, 0, name + 1);
+        r.step(0, NONE);
+        r.step(2, NONE, REMOVE, p(0), 0, 0, 0, REMOVE, p(1), 0, 0, 0, ADD, p(0), NUMBER, 0, 5);
+        r.step(3, 1, SPLIT, p(0), 3, 1, 0);
+        r.step(3, NONE, SPLIT, p(0), 3, 1, 0);
+        r.step(0, 4, REMOVE, p(name), 0, 0, 0, ADD, p(name), NUMBER, 0, name + 1);
+        r.due(0, "clash", 5);
     }
 
     /** Back over SPLIT by 3, then forth over SPLIT by a base, of which the quotient stays. */
@@ -268,12 +302,14 @@ public final class RouteSentencesTest extends Sentences {
     private static void termsOfScale() {
         says("SCALE forth: t itself if a is b;");
         beside(0, both(), of(), of(SCALE, p(0), 7, 7, 0));
+        beside(0, withNumbers(2), of(), of(SCALE, p(1), 7, 7, 0));
 
         says("of a number what comes of it (as an int);");
         beside(0, empty(), of(ADD, p(0), NUMBER, 7, 7, SCALE, p(0), 3, 2, 0), of(ADD, p(0), NUMBER, 10, 10));
         beside(0, empty(), of(ADD, p(0), NUMBER, -7, -7, SCALE, p(0), 3, 2, 0), of(ADD, p(0), NUMBER, -11, -11));
         beside(1, empty(), of(ADD, p(0), NUMBER, 6, 8, SCALE, p(0), 1, 2, 0),
                 of(ADD, p(0), NUMBER, 3, 4, MAP, p(0), 3, 4, 0));
+        beside(0, withNumbers(1), of(ADD, p(1), NUMBER, 7, 7, SCALE, p(1), 3, 2, 0), of(ADD, p(1), NUMBER, 10, 10));
         scaledAsAnInt();
 
         says("else M t a b;");
@@ -286,6 +322,7 @@ public final class RouteSentencesTest extends Sentences {
 
         says("back: t itself if a is b;");
         round(0, withNumber(0, 9), of(), of(), of(SCALE, p(0), 7, 7, 0));
+        round(0, withNumbers(2), of(), of(), of(SCALE, p(1), 7, 7, 0));
 
         says("of a number what comes of it;");
         int[] third = of(SCALE, p(0), 1, 3, 0);
@@ -294,10 +331,31 @@ public final class RouteSentencesTest extends Sentences {
         round(0, empty(), of(ADD, p(0), NUMBER, 7, 11), twoOrThree, third);
         round(0, empty(), of(ADD, p(0), NUMBER, 7, 11, MAP, p(0), 7, 9, 0), behind(twoOrThree, MAP, p(0), 2, 3, 0), third);
         round(1, empty(), of(ADD, p(0), NUMBER, 7, 11), behind(twoOrThree, MAP, p(0), 2, 3, 0), third);
+        round(0, withNumbers(1), of(ADD, p(1), NUMBER, 6, 11), of(ADD, p(1), NUMBER, 2, 3), of(SCALE, p(1), 1, 3, 0));
 
         says("else B t a b low high with the bounds before.");
         round(1, withNumber(0, 9), of(), of(SCALE, p(0), 2, 1, 0), of(SCALE, p(0), 2, 1, 0));
         round(1, withNumber(0, 0), of(), of(), of(SCALE, p(0), 2, 1, 0));
+        round(1, withNumber(0, 0), of(SCALE, p(0), 2, 1, 0), of(), of(SCALE, p(0), 2, 1, 0));
+        notP();
+    }
+
+    /**
+     * The way from version 0 to 6, over 1, 5 and 4, makes M of B of S 0, with the bounds 0 and 0; step 7 makes
+     * M of P of S 0, with the same numbers.
+     */
+    private static void notP() {
+        Run r = withNumber(0, 2);
+        r.step(0, NONE, SPLIT, p(0), 5, 1, 0);
+        r.step(0, NONE);
+        r.step(2, NONE);
+        r.step(3, NONE, SCALE, p(0), 1, 3, 0);
+        r.step(4, NONE, SCALE, p(0), 1, 2, 0);
+        r.step(5, 1, SPLIT, p(0), 5, 1, 0);
+        r.step(4, NONE, SCALE, p(0), 1, 3, 0);
+        dueRoute(r, 0, 1, 5, 4, 6);
+        r.step(0, 6, MAP, p(0), 1, 2, 0, SCALE, p(0), 1, 3, 0);
+        r.due(1, "clash", 7);
     }
 
     /**

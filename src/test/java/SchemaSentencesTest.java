@@ -88,6 +88,9 @@ public final class SchemaSentencesTest extends Sentences {
         }
         r.due(5, "field", 100, NUMBER, 0, 9);
         r.due(NONE, "about", 0, 100 + 4 * 128, 0);
+        for (int path : of(128, 4 + 16384, 101, 5 + MIN, 5 + (1 << 28))) {
+            r.refuses(ARGUMENT, "field", path, NUMBER, 0, 9);
+        }
         r.step(0, NONE, RENAME, written[3], 9, 0, 0, LIFT, written[3] + 2 * 2097152, 0, 0, 0);
         r.due(NUMBER, "about", 1, 4 + 100 * 128 + 10 * 16384, 0);
 
@@ -116,7 +119,7 @@ public final class SchemaSentencesTest extends Sentences {
     private static void defaults() {
         says("The DEFAULT of a number is the one in its bounds that is nearest to 0,");
         Run r = new Run();
-        int[][] bounds = {{-5, 5, 0}, {0, 9, 0}, {-9, 0, 0}, {3, 9, 3}, {-9, -4, -4}, {6, 6, 6}};
+        int[][] bounds = {{-5, 5, 0}, {0, 9, 0}, {-9, 0, 0}, {1, 9, 1}, {3, 9, 3}, {-9, -1, -1}, {-9, -4, -4}};
         for (int i = 0; i < bounds.length; i++) {
             r.does("field", p(i), NUMBER, bounds[i][0], bounds[i][1]);
         }
@@ -218,8 +221,9 @@ public final class SchemaSentencesTest extends Sentences {
         r.refuses(ARGUMENT, "primitive", 0, p(0), 1, 0, 0);
         r.refuses(ARGUMENT, "primitive", 0, p(0), 0, 0, 0);
         r.refuses(ARGUMENT, "primitive", 0, p(0), 100, 0, 0);
-        r.due(1, "primitive", 0, p(0), 4, 0, 0);
+        r.due(1, "primitive", 0, p(0), 99, 0, 0);
         r.due(2, "primitive", 0, p(2), 6, 0, 0);
+        r.due(3, "primitive", 0, p(99), 4, 0, 0);
         r.due(1, "end", NONE);
         r.dueField(1, p(0), NONE, 0, 0);
         r.dueField(1, p(4), NUMBER, -5, 9);
@@ -340,7 +344,9 @@ public final class SchemaSentencesTest extends Sentences {
         beside.refuses(ARGUMENT, "primitive", 5, p(0), 3, 100, 0);
         beside.refuses(ARGUMENT, "primitive", 5, p(0), 3, -1, 0);
         beside.due(1, "primitive", 5, p(2, 3, 4), 3, 1, 0);
+        beside.due(2, "primitive", 5, p(0), 3, 99, 0);
         beside.due(1, "end", NONE);
+        beside.dueField(1, p(99), NUMBER, 0, 2);
         beside.dueField(1, p(2, 3, 1), NUMBER, 0, 2);
     }
 
